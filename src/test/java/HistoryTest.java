@@ -49,7 +49,15 @@ final class HistoryTest {
         due.is("firm(0, 0)", x.firm(0, 0), 128);
     }
 
-    private static void taken(HookHours x, String act, String first) {
+    private static String first = "";
+
+    /** Another act goes ahead of each one, so that no state stands where an earlier one left it. */
+    private static void begin(HookHours x) {
+        x.fund(5, 1);
+        first = Steps.told(x);
+    }
+
+    private static void taken(HookHours x, String act) {
         due.holds(act + " changes something", !Steps.told(x).equals(first));
         int left = x.count(14) - 1;
         due.is("undo() of " + act, x.undo(), left);
@@ -63,27 +71,43 @@ final class HistoryTest {
         x.bid(1, 0, 0, 5, 20);
         x.bid(1, 1, 0, 5, 20);
         x.award(0, 0);
-        String first = Steps.told(x);
+        begin(x);
         x.expect(2, 5);
-        taken(x, "expect", first);
+        taken(x, "expect");
+        begin(x);
         x.fund(2, 5);
-        taken(x, "fund", first);
+        taken(x, "fund");
+        begin(x);
         x.bid(2, 2, 2, 2, 2);
-        taken(x, "bid", first);
+        taken(x, "bid");
+        begin(x);
         x.withdraw(1, 1, 0);
-        taken(x, "withdraw", first);
+        taken(x, "withdraw");
+        begin(x);
         x.award(1, 0);
-        taken(x, "award", first);
+        taken(x, "award");
+        begin(x);
         x.trade(0, 0, 3, 20, 40);
-        taken(x, "trade", first);
-        x.done(60);
-        taken(x, "done", first);
+        taken(x, "trade");
+        begin(x);
+        x.done(66);
+        due.is("count(9), a refund", x.count(9), 20);
+        taken(x, "done");
+        begin(x);
         x.done(0);
-        taken(x, "done", first);
+        taken(x, "done");
+        begin(x);
+        Steps.performed(x, "d66,b0c0h1w1=1");
+        taken(x, "perform");
+        x.keep();
+        x.withdraw(1, 1, 0);
+        begin(x);
+        x.restore();
+        taken(x, "restore");
         Steps.endHours(x, 16, 70);
-        String ended = Steps.told(x);
+        begin(x);
         x.nextDay();
-        taken(x, "nextDay", ended);
+        taken(x, "nextDay");
     }
 
     private static void onlyActsAreRecorded() {
