@@ -241,7 +241,7 @@ public final class HookHours {
     /** Ends an act: one that answers neither an error nor NONE (all below 0) goes into the history. */
     private int recorded(int answer) {
         if (answer >= 0) {
-            history.record(before);
+            history.store(before);
         }
         return answer;
     }
@@ -831,7 +831,7 @@ public final class HookHours {
         private int size = 0;
 
         History() {
-            for (int i = 0; i < ROOM; i++) {
+            for (int i = 0; i < states.length; i++) {
                 states[i] = new State();
             }
         }
@@ -840,8 +840,8 @@ public final class HookHours {
             return size;
         }
 
-        void record(State state) {
-            if (size >= ROOM) {
+        void store(State state) {
+            if (size >= states.length) {
                 dropOldest();
             }
             State latest = stateAt(size);
@@ -868,12 +868,12 @@ public final class HookHours {
 
         // The oldest one goes behind the others, to be written over.
         private void dropOldest() {
-            State oldest = states[0];
-            for (int i = 1; i < ROOM; i++) {
+            for (int i = 1; i < states.length; i++) {
+                State oldest = states[i - 1];
                 states[i - 1] = states[i];
+                states[i] = oldest;
             }
-            states[ROOM - 1] = oldest;
-            size = ROOM - 1;
+            size--;
         }
     }
 
