@@ -22,6 +22,21 @@ final class Due {
         }
     }
 
+    /** Compares two texts of many lines, and tells the first line that is not the one that is due. */
+    void same(String what, String got, String want) {
+        String[] gotLines = got.split("\n");
+        String[] wantLines = want.split("\n");
+        for (int i = 0; i < Math.max(gotLines.length, wantLines.length); i++) {
+            String gotLine = i < gotLines.length ? gotLines[i] : "(nothing)";
+            String wantLine = i < wantLines.length ? wantLines[i] : "(nothing)";
+            if (!gotLine.equals(wantLine)) {
+                wrong++;
+                System.out.println(part + ": " + what + ": '" + gotLine + "', due is '" + wantLine + "'");
+                return;
+            }
+        }
+    }
+
     /** Ends the program, with exit code 1 if an answer was wrong. */
     void end() {
         if (wrong > 0) {

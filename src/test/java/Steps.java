@@ -31,6 +31,13 @@ final class Steps {
         }
     }
 
+    /** Brings a purse from the 100 coins that it has at first to more. */
+    static void fundTo(HookHours x, int firm, int coins) {
+        for (int has = 100; has < coins; has += 999) {
+            x.fund(firm, Math.min(999, coins - has));
+        }
+    }
+
     /** All that an object tells of its state, but for the history and the text. */
     static String told(HookHours x) {
         StringBuilder all = new StringBuilder();
