@@ -264,6 +264,8 @@ final class StatesTest {
         counts(x, counts, "of the state");
         due.is("done(5)", x.done(5), 1);
         x.fund(0, 5);
+        due.is("count(10), of what came in the yard has a part", x.count(10), 598);
+        due.is("count(11), what came into purses", x.count(11), 605);
         due.is("award(1, 15)", x.award(1, 15), 1);
         due.is("trade(1, 15, 0, 5, 5)", x.trade(1, 15, 0, 5, 5), 105);
         for (int left = 3; left >= 0; left--) {
